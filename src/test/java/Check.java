@@ -34,12 +34,21 @@ final class Check {
             call.make();
         } catch (RuntimeException e) {
             got = e.getClass().getSimpleName();
+            dueOwnThrow(what, e);
         }
         if (!got.equals(kind.getSimpleName())) {
             fail(what + " threw " + got + ", due is " + kind.getSimpleName());
         }
         if (land.digest() != before) {
             fail(what + " threw and changed the land");
+        }
+    }
+
+    /** The class itself throws, not the library or the machine below it. */
+    static void dueOwnThrow(String what, RuntimeException e) {
+        StackTraceElement[] frames = e.getStackTrace();
+        if (frames.length == 0 || !frames[0].getClassName().equals("WheatRun") || e.getCause() != null) {
+            fail(what + " did not throw by itself, but " + e);
         }
     }
 

@@ -16,6 +16,8 @@ final class HourCombineTest {
         cutsWhatShatteredPartly();
         cutsWhatBringsNothing();
         cutsNothingBringingWithAFullTank();
+        waitsWithAFullTankForSingleBushels();
+        cutsSingleBushels();
         waitsWithAnothersBushels();
         waitsWithAnothersBushelsForNothing();
         breaks();
@@ -217,6 +219,60 @@ final class HourCombineTest {
         shatterWholly(x, 15);
         pass(x, 3);
         dueCombine("at CLOCK 8", x, 0, 400, 20, 30);
+    }
+
+    /** LOST 95: what had a YIELD of 20 brings 1. */
+    private static void shatterToOne(WheatRun x, int field) {
+        x.crop(field, 100, 30);
+        x.pass(19, 0, 0, 20);
+        x.crop(field, 100, 15);
+        Check.due("LOST", x.ofField(field, 6), 95);
+    }
+
+    private static void waitsWithAFullTankForSingleBushels() {
+        WheatRun x = with(100, 20, 20);
+        pass(x, 8);
+        dueCombine("full", x, 0, 400, 20, 7);
+        shatterToOne(x, 0);
+        pass(x, 5);
+        dueCombine("not 401", x, 0, 400, 20, 7 + 19 + 5);
+        pass(x, 1);
+        dueCombine("not 401 by day", x, 0, 400, 20, 32);
+    }
+
+    private static void cutsSingleBushels() {
+        WheatRun x = with(100, 20, 1);
+        x.field(0, 0, 50, 10, 0);
+        x.truck(0);
+        x.truck(0);
+        shatterToOne(x, 0);
+        x.crop(0, 100, 18);
+        x.pass(1, 0, 72, 0);
+        dueCombine("one", x, 0, 1, 1, 19);
+        Check.due("on the way", x.ofField(0, 9), 1);
+        x.crop(1, 80, 15);
+        x.cut(0, 1);
+        pass(x, 1);
+        dueCombine("one of another FIELD", x, 0, 1, 1, 20);
+        x.cut(0, 0);
+        pass(x, 1);
+        dueCombine("a second", x, 0, 2, 2, 20);
+        x.cut(0, -1);
+        x.fetch(0, 0);
+        pass(x, 1);
+        Check.due("LOAD of two", x.ofTruck(0, 1), 2);
+        Check.due("the greater DAMP", x.ofTruck(0, 3), 18);
+        x.stop(0);
+        x.crop(0, 100, 16);
+        x.cut(0, 0);
+        x.fetch(1, 0);
+        x.pass(9, 0, 64, 0);
+        Check.due("LOAD of one", x.ofTruck(1, 1), 1);
+        x.crop(0, 100, 15);
+        x.fetch(1, 0);
+        pass(x, 1);
+        Check.due("LOAD of another one", x.ofTruck(1, 1), 2);
+        Check.due("the greater DAMP", x.ofTruck(1, 3), 16);
     }
 
     private static void waitsWithAnothersBushels() {

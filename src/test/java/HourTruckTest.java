@@ -8,11 +8,13 @@ final class HourTruckTest {
         restsAfterTenHours();
         restsRatherThanTakes();
         restsWithoutPlace();
+        restsAfterOneHour();
         keepsRestWhileItDoesNotDrive();
         followsItsCombine();
         takesWhatFits();
         takesOfOneFieldAlone();
         takesByNumbers();
+        singleBushels();
         elevatorIsOpenByClock();
         elevatorTakesByDamp();
         elevatorTakesByRoom();
@@ -148,6 +150,17 @@ final class HourTruckTest {
         dueTruck("rests no more", x, 0, 70, 0, 0, 70);
     }
 
+    private static void restsAfterOneHour() {
+        WheatRun x = new WheatRun();
+        x.elevator(30, 0, 0, 1, 5, 5);
+        x.truck(0);
+        x.haul(0, 0);
+        pass(x, 1);
+        x.stop(0);
+        pass(x, 1);
+        dueTruck("one HOUR", x, 0, 30, 1, 1, 30);
+    }
+
     private static void keepsRestWhileItDoesNotDrive() {
         WheatRun x = loaded(10);
         x.elevator(70, 0, 0, 1, 5, 5);
@@ -253,6 +266,38 @@ final class HourTruckTest {
         pass(x, 9);
         dueLoad("the first", x, 0, 200, 0, 15, 0);
         dueLoad("the second", x, 1, 0, -1, 0, 0);
+    }
+
+    /** With LOST 95 an acre of 20 bushels brings 1: one bushel is a LOAD like any other. */
+    private static void singleBushels() {
+        WheatRun x = new WheatRun();
+        x.field(0, 0, 200, 20, 0);
+        x.field(0, 0, 1, 10, 0);
+        x.crop(0, 100, 30);
+        x.pass(19, 0, 60, 20);
+        x.combine(0, 1);
+        x.combine(0, 1);
+        x.truck(0);
+        x.elevator(0, 0, 1, 0, 5, 40);
+        x.crop(0, 100, 15);
+        x.crop(1, 80, 19);
+        x.cut(0, 0);
+        x.cut(1, 1);
+        x.fetch(0, 0);
+        x.pass(1, 0, 60, 0);
+        x.cut(0, -1);
+        dueLoad("one", x, 0, 1, 0, 15, 0);
+        x.fetch(0, 1);
+        pass(x, 1);
+        dueLoad("one, and not of another FIELD", x, 0, 1, 0, 15, 0);
+        x.haul(0, 0);
+        pass(x, 1);
+        dueLoad("one waits", x, 0, 1, 0, 15, 1);
+        x.train(0, 1);
+        Check.due("on the way", x.ofField(0, 10), -1);
+        Check.due("TICKETS", x.pass(1, 0, 60, 0), 1);
+        Check.due("of one bushel", x.ofTicket(0, 1), 1);
+        Check.due("MONEY", x.many(8), 1000);
     }
 
     private static void elevatorIsOpenByClock() {

@@ -16,6 +16,7 @@ final class TicketTest {
         metersByHour();
         correction();
         correctionWaitsForAll();
+        correctionWaitsForOneBushel();
         Check.end();
     }
 
@@ -97,6 +98,13 @@ final class TicketTest {
         x.price(9);
         sell(x, 0);
         Check.due("90 / 100", x.ofTicket(1, 6), 0);
+        WheatRun z = with(40, 50, 10);
+        z.elevator(0, 9999, 0, 23, 13, 40);
+        z.price(997);
+        pass(z, 2);
+        z.haul(0, 0);
+        pass(z, 1);
+        Check.due("76569600 / 10000", z.ofTicket(0, 6), 7656);
         WheatRun y = with(40, 50, 10);
         y.elevator(0, 9999, 0, 23, 15, 40);
         y.price(999);
@@ -256,5 +264,26 @@ final class TicketTest {
         pass(x, 1);
         Check.due("another FIELD's on a TRUCK", x.ofField(0, 10), 1041);
         Check.due("that other FIELD", x.ofField(1, 10), -1);
+    }
+
+    private static void correctionWaitsForOneBushel() {
+        WheatRun x = with(20, 0, 1);
+        x.elevator(0, 500, 0, 23, 5, 40);
+        sell(x, 0);
+        Check.due("20000 / 19", x.ofField(0, 10), 1052);
+        x.crop(0, 100, 30);
+        x.pass(19, 0, 60, 20);
+        x.crop(0, 100, 15);
+        pass(x, 4);
+        Check.due("one bushel", x.ofField(0, 9), 1);
+        Check.due("one in a TANK", x.ofField(0, 10), -1);
+        x.cut(0, -1);
+        x.fetch(0, 0);
+        pass(x, 1);
+        Check.due("one bushel", x.ofTruck(0, 1), 1);
+        Check.due("one on a TRUCK", x.ofField(0, 10), -1);
+        x.haul(0, 0);
+        pass(x, 1);
+        Check.due("21000 / 19", x.ofField(0, 10), 1105);
     }
 }

@@ -41,6 +41,7 @@ final class UnchangedTest {
             if (e.getClass() != kind) {
                 Check.fail(what + " threw " + e);
             }
+            Check.dueOwnThrow(what, e);
         }
     }
 

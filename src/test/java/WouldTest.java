@@ -11,6 +11,7 @@ final class WouldTest {
         promise23NextFieldByBushels();
         promise23NextFieldByWay();
         promise23NextFieldOfSeveral();
+        promise23NextFieldForOneBushel();
         promise23NextFieldNone();
         promise23NextFieldAsAllElseGoesOn();
         promise23NextFieldWithFullTank();
@@ -148,6 +149,22 @@ final class WouldTest {
         dueNext("that to which it is sent, the first", x, 0, 3, 1);
         x.cut(0, 0);
         dueNext("sent to one with less", x, 0, 3, 1);
+    }
+
+    private static void promise23NextFieldForOneBushel() {
+        WheatRun x = new WheatRun();
+        for (int i = 0; i < 3; i++) {
+            x.field(0, 0, 20, 20, 0);
+            x.crop(i, 100, 30);
+        }
+        x.pass(19, 0, 60, 20);
+        for (int i = 0; i < 3; i++) {
+            x.crop(i, 100, 15);
+        }
+        x.combine(0, 1);
+        dueNext("one bushel of any", x, 0, 1, 0);
+        x.cut(0, 2);
+        dueNext("one bushel where it is sent", x, 0, 1, 2);
     }
 
     private static void promise23NextFieldNone() {
