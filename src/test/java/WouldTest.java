@@ -15,6 +15,7 @@ final class WouldTest {
         promise23NextFieldNone();
         promise23NextFieldAsAllElseGoesOn();
         promise23NextFieldWithFullTank();
+        promise23NextFieldAsATruckRests();
         promise23NextFieldByBrings();
         promise23NextFieldCountsBushelsNotMaps();
         promise23NextFieldThrows();
@@ -221,6 +222,23 @@ final class WouldTest {
         dueNext("a TRUCK comes: as more is left", x, 0, 4, 1);
         x.stop(0);
         dueNext("a TRUCK stays", x, 0, 4, -1);
+    }
+
+    private static void promise23NextFieldAsATruckRests() {
+        WheatRun x = fields(20, new int[] {0, 200});
+        x.elevator(250, 0, 0, 1, 5, 5);
+        x.truck(0);
+        x.cut(0, 0);
+        x.pass(13, 0, 60, 0);
+        x.haul(0, 0);
+        x.pass(5, 0, 60, 0);
+        x.fetch(0, 0);
+        x.pass(10, 0, 60, 0);
+        Check.due("TANK", x.ofCombine(0, 1), 400);
+        Check.due("HOURS", x.ofTruck(0, 4), 10);
+        Check.due("REST", x.ofTruck(0, 5), 5);
+        dueNext("3 of REST, and it takes", x, 0, 4, -1);
+        dueNext("3 of REST, it takes, and a cut", x, 0, 5, 0);
     }
 
     private static void promise23NextFieldByBrings() {
