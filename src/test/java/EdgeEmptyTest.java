@@ -25,6 +25,7 @@ final class EdgeEmptyTest {
         nothingInTheTank();
         nothingLeftInTheTank();
         nothingOnTheTruck();
+        oneBushelIsNotNothing();
         nothingInTheMap();
         Check.end();
     }
@@ -280,20 +281,47 @@ final class EdgeEmptyTest {
         }
     }
 
-    /** "(NONE, if the MAP is 0": 1 bushel times 96 / 100 tells 0, so that a TICKET alone corrects nothing. */
-    private static void nothingInTheMap() {
+    /** "(NONE, if it is empty)", "(0, if it is empty)": with one bushel in it, it is not. */
+    private static void oneBushelIsNotNothing() {
+        WheatRun x = oneBushelCut();
+        Check.due("TANK", x.ofCombine(0, 1), 1);
+        Check.due("FIELD of the TANK", x.ofCombine(0, 2), 0);
+        Check.due("in TANKS and on TRUCKS", x.many(10), 1);
+        x.cut(0, -1);
+        x.fetch(0, 0);
+        Lands.pass(x, 1);
+        Check.due("TANK then", x.ofCombine(0, 2), -1);
+        Check.due("LOAD", x.ofTruck(0, 1), 1);
+        Check.due("FIELD of the LOAD", x.ofTruck(0, 2), 0);
+        Check.due("DAMP of the LOAD", x.ofTruck(0, 3), 15);
+        Check.due("of FIELD 0 on the way", x.ofField(0, 9), 1);
+        x.haul(0, 0);
+        Check.due("TICKETS", x.pass(1, 0, 60, 0), 1);
+        Check.due("in TANKS and on TRUCKS then", x.many(10), 0);
+    }
+
+    /** A FIELD of 20 bushels with LOST 95, of which one acre is CUT; a TRUCK and an ELEVATOR at its MILE. */
+    private static WheatRun oneBushelCut() {
         WheatRun x = new WheatRun();
         x.field(0, 0, 200, 20, 0);
         x.combine(0, 1);
         x.truck(0);
         x.elevator(0, 500, 0, 23, 5, 40);
-        Check.due("before any cut", x.ofField(0, 10), -1);
+        Check.due("CORRECTION before any cut", x.ofField(0, 10), -1);
         Lands.shatter(x, 0, 95);
         Lands.passUntil(x, 7);
+        Check.due("one bushel of any", x.nextField(0, 1, 0, 60), 0);
         x.cut(0, 0);
+        Lands.pass(x, 1);
+        return x;
+    }
+
+    /** "(NONE, if the MAP is 0": 1 bushel times 96 / 100 tells 0, so that a TICKET alone corrects nothing. */
+    private static void nothingInTheMap() {
+        WheatRun x = oneBushelCut();
+        x.cut(0, -1);
         x.fetch(0, 0);
         Lands.pass(x, 1);
-        x.cut(0, -1);
         x.haul(0, 0);
         Check.due("TICKETS", x.pass(1, 0, 60, 0), 1);
         Check.due("MAP", x.ofField(0, 7), 0);

@@ -16,6 +16,7 @@ final class EdgeFullTest {
         tankIsFull();
         tankHasNoRoomForAnAcre();
         tankHasRoomForAnAcre();
+        tankIsFullForOneBushel();
         tankIsFullAndNothingIsBrought();
         truckIsFull();
         truckHasRoomForAPart();
@@ -24,6 +25,7 @@ final class EdgeFullTest {
         elevatorIsEmptied();
         wearIsFull();
         wearIsMoreThanFull();
+        allAreBroken();
         moneyIsJustEnough();
         lastHour();
         callsAreFiveHundredAndTwelve();
@@ -212,6 +214,21 @@ final class EdgeFullTest {
         Check.due("acres", x.ofCombine(0, 6), 7);
     }
 
+    /** "400 at most": not a single bushel more fits. */
+    private static void tankIsFullForOneBushel() {
+        WheatRun x = Lands.ready(200, 20, 20);
+        Lands.pass(x, 1);
+        Check.due("TANK", x.ofCombine(0, 1), 400);
+        x.cut(0, -1);
+        Lands.shatter(x, 0, 95);
+        Lands.passUntil(x, 7);
+        x.cut(0, 0);
+        Lands.pass(x, 1);
+        Check.due("not 401", x.ofCombine(0, 1), 400);
+        Check.due("acres", x.ofCombine(0, 6), 20);
+        Check.due("IDLE", x.ofCombine(0, 7), 1);
+    }
+
     /** "nor, if an acre BRINGS any, than the room": a full TANK is no hindrance where it brings none. */
     private static void tankIsFullAndNothingIsBrought() {
         WheatRun x = Lands.ready(200, 40, 10);
@@ -362,6 +379,32 @@ final class EdgeFullTest {
         Check.due("acres", x.ofCombine(0, 6), 119);
         Check.due("mended", x.mend(0), 357);
         Check.due("MONEY", x.many(8), 643);
+    }
+
+    /** "4 those that are BROKEN": from none to all 4, and mended one by one, as MONEY lasts. */
+    private static void allAreBroken() {
+        WheatRun x = worn(20, 200);
+        x.field(0, 0, 200, 10, 0);
+        for (int i = 1; i < 4; i++) {
+            x.combine(0, 20);
+        }
+        Lands.shatter(x, 1, 100);
+        Lands.passUntil(x, 7);
+        x.crop(0, 100, 15);
+        x.crop(1, 100, 15);
+        for (int i = 0; i < 4; i++) {
+            x.cut(i, i / 2);
+        }
+        Lands.pass(x, 4);
+        Check.due("BROKEN with WEAR 80", x.many(4), 0);
+        Lands.pass(x, 1);
+        Check.due("BROKEN", x.many(4), 4);
+        for (int i = 0; i < 3; i++) {
+            Check.due("mended", x.mend(i), 300);
+            Check.due("left", x.many(4), 3 - i);
+        }
+        Check.dueThrown("300 of 100", x, Check.STATE, () -> x.mend(3));
+        Check.due("the last one stays", x.many(4), 1);
     }
 
     /** "if there is not so much MONEY": 102 is too much of 100, and just enough of 102. */
