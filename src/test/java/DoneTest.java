@@ -1,22 +1,16 @@
-/** Promises 8 to 14: what is done, call by call; what an hour does is in the tests named Hour. */
+/** Promises 8 to 13: what is done; its edges are in the tests named Edge, what an hour does in those named Hour. */
 final class DoneTest {
     private DoneTest() {
     }
 
     public static void main(String[] args) {
         promise08Cut();
-        promise08CutThrows();
         promise09Fetch();
         promise10Haul();
         promise09And10Replace();
         promise11Stop();
         promise12Mend();
-        promise12MendThrice();
-        promise12MendForAllMoney();
         promise13Train();
-        promise14PassThrows();
-        promise14PassUpToTheLastHour();
-        promise14PassCountsTickets();
         Check.end();
     }
 
@@ -45,19 +39,6 @@ final class DoneTest {
         Check.due("sent to 1, comes there", x.ofCombine(2, 0), 20);
     }
 
-    private static void promise08CutThrows() {
-        WheatRun x = new WheatRun();
-        x.field(0, 10, 10, 10, 0);
-        x.combine(0, 1);
-        x.cut(0, 0);
-        Check.dueThrown("combine -1", x, Check.INDEX, () -> x.cut(-1, 0));
-        Check.dueThrown("combine 1", x, Check.INDEX, () -> x.cut(1, 0));
-        Check.dueThrown("combine 1, NONE", x, Check.INDEX, () -> x.cut(1, -1));
-        Check.dueThrown("field -2", x, Check.INDEX, () -> x.cut(0, -2));
-        Check.dueThrown("field 1", x, Check.INDEX, () -> x.cut(0, 1));
-        Check.due("FIELD, as it was", x.ofCombine(0, 5), 0);
-    }
-
     private static void promise09Fetch() {
         WheatRun x = new WheatRun();
         x.combine(100, 1);
@@ -71,10 +52,6 @@ final class DoneTest {
         Check.due("goes there", x.ofTruck(1, 0), 50);
         Check.due("there", x.fetch(0, 0), 0);
         Check.due("on the way", x.fetch(1, 1), 250);
-        Check.dueThrown("truck -1", x, Check.INDEX, () -> x.fetch(-1, 0));
-        Check.dueThrown("truck 2", x, Check.INDEX, () -> x.fetch(2, 0));
-        Check.dueThrown("combine -1", x, Check.INDEX, () -> x.fetch(0, -1));
-        Check.dueThrown("combine 2", x, Check.INDEX, () -> x.fetch(0, 2));
         x.pass(1, 0, 0, 0);
         Check.due("stays there", x.ofTruck(0, 0), 100);
     }
@@ -92,10 +69,6 @@ final class DoneTest {
         Check.due("goes there", x.ofTruck(1, 0), 50);
         Check.due("there", x.haul(0, 0), 0);
         Check.due("on the way", x.haul(1, 1), 250);
-        Check.dueThrown("truck -1", x, Check.INDEX, () -> x.haul(-1, 0));
-        Check.dueThrown("truck 2", x, Check.INDEX, () -> x.haul(2, 0));
-        Check.dueThrown("elevator -1", x, Check.INDEX, () -> x.haul(0, -1));
-        Check.dueThrown("elevator 2", x, Check.INDEX, () -> x.haul(0, 2));
         x.pass(1, 0, 0, 0);
         Check.due("stays there", x.ofTruck(0, 0), 100);
     }
@@ -130,23 +103,6 @@ final class DoneTest {
         Check.due("stopped on the way to an elevator", x.ofTruck(1, 0), 150);
         Check.due("rests", x.ofTruck(0, 5), 1);
         Check.due("stopped again", x.stop(0), 3);
-        Check.dueThrown("truck -1", x, Check.INDEX, () -> x.stop(-1));
-        Check.dueThrown("truck 2", x, Check.INDEX, () -> x.stop(2));
-    }
-
-    /** A field that shattered wholly: its acres wear a combine and bring nothing that fills the tank. */
-    private static void shatterAndDry(WheatRun x, int field) {
-        x.crop(field, 100, 30);
-        x.pass(20, 0, 0, 20);
-        x.crop(field, 100, 15);
-        passUntilSeven(x);
-        Check.due("LOST", x.ofField(field, 6), 100);
-    }
-
-    private static void passUntilSeven(WheatRun x) {
-        do {
-            x.pass(1, 0, 60, 0);
-        } while (x.many(0) % 24 != 7);
     }
 
     private static void promise12Mend() {
@@ -154,7 +110,8 @@ final class DoneTest {
         x.field(0, 0, 200, 10, 0);
         x.combine(0, 20);
         Check.due("mended without WEAR", x.mend(0), 0);
-        shatterAndDry(x, 0);
+        Lands.shatter(x, 0, 100);
+        Lands.passUntil(x, 7);
         x.cut(0, 0);
         x.pass(4, 0, 60, 0);
         Check.due("mended with WEAR 80", x.mend(0), 240);
@@ -170,78 +127,6 @@ final class DoneTest {
         Check.due("cuts again", x.ofCombine(0, 6), 200);
     }
 
-    private static void promise12MendThrice() {
-        WheatRun x = new WheatRun();
-        x.field(0, 0, 200, 10, 0);
-        x.field(0, 0, 200, 10, 0);
-        x.combine(0, 20);
-        x.combine(0, 11);
-        shatterAndDry(x, 0);
-        shatterAndDry(x, 1);
-        x.crop(0, 100, 15);
-        for (int i = 0; i < 3; i++) {
-            x.cut(0, i == 2 ? 1 : 0);
-            x.pass(5, 0, 60, 0);
-            Check.due("mended for 300", x.mend(0), 300);
-        }
-        Check.due("MONEY", x.many(8), 100);
-        x.cut(0, -1);
-        passUntilSeven(x);
-        x.cut(1, 1);
-        x.pass(3, 0, 60, 0);
-        Check.due("mended for 99 of 100", x.mend(1), 99);
-        Check.due("MONEY", x.many(8), 1);
-        x.pass(1, 0, 60, 0);
-        Check.dueThrown("33 of 1", x, Check.STATE, () -> x.mend(1));
-        Check.due("WEAR stays", x.ofCombine(1, 3), 11);
-        Check.due("mended for nothing", x.mend(0), 0);
-    }
-
-    private static void promise12MendForAllMoney() {
-        WheatRun x = new WheatRun();
-        x.field(0, 0, 1, 10, 0);
-        x.field(0, 0, 200, 10, 0);
-        x.field(0, 0, 200, 10, 0);
-        x.combine(0, 20);
-        x.truck(0);
-        x.elevator(0, 100, 0, 23, 5, 40);
-        Check.dueThrown("combine -1", x, Check.INDEX, () -> x.mend(-1));
-        Check.dueThrown("combine 1", x, Check.INDEX, () -> x.mend(1));
-        shatterAndDry(x, 1);
-        x.crop(0, 100, 15);
-        x.crop(0, 80, 15);
-        x.cut(0, 0);
-        x.fetch(0, 0);
-        x.pass(1, 0, 60, 0);
-        x.haul(0, 0);
-        Check.due("a ticket of 10 bushels", x.pass(1, 0, 60, 0), 1);
-        Check.due("MONEY", x.many(8), 1002);
-        Check.due("mended", x.mend(0), 3);
-        x.cut(0, 1);
-        x.pass(5, 0, 60, 0);
-        x.mend(0);
-        x.pass(5, 0, 60, 0);
-        x.mend(0);
-        x.pass(7, 0, 60, 0);
-        shatterAndDry(x, 2);
-        x.cut(0, 2);
-        x.pass(5, 0, 60, 0);
-        x.mend(0);
-        Check.due("MONEY", x.many(8), 99);
-        x.combine(0, 11);
-        x.combine(0, 17);
-        x.cut(1, 2);
-        x.cut(2, 2);
-        x.cut(0, -1);
-        x.pass(2, 0, 60, 0);
-        Check.due("WEAR 34", x.ofCombine(2, 3), 34);
-        Check.dueThrown("102 of 99", x, Check.STATE, () -> x.mend(2));
-        x.cut(2, -1);
-        x.pass(1, 0, 60, 0);
-        Check.due("mended for all MONEY", x.mend(1), 99);
-        Check.due("MONEY", x.many(8), 0);
-    }
-
     private static void promise13Train() {
         WheatRun x = new WheatRun();
         x.elevator(0, 100, 0, 1, 5, 5);
@@ -254,73 +139,5 @@ final class DoneTest {
         Check.due("all ROOM", x.many(9), 19998);
         x.elevator(0, 0, 0, 1, 5, 5);
         Check.due("from nothing", x.train(2, 9999), 9999);
-        Check.dueThrown("elevator -1", x, Check.INDEX, () -> x.train(-1, 1));
-        Check.dueThrown("elevator 3", x, Check.INDEX, () -> x.train(3, 1));
-        Check.dueThrown("elevator before bushels", x, Check.INDEX, () -> x.train(3, 0));
-        WheatRun y = new WheatRun();
-        y.elevator(0, 100, 0, 1, 5, 5);
-        Check.dueThrown("bushels 0", y, Check.ARGUMENT, () -> y.train(0, 0));
-        Check.dueThrown("bushels -1", y, Check.ARGUMENT, () -> y.train(0, -1));
-        Check.dueThrown("bushels 10000", y, Check.ARGUMENT, () -> y.train(0, 10000));
-        Check.dueThrown("bushels, greatest int", y, Check.ARGUMENT, () -> y.train(0, Integer.MAX_VALUE));
-    }
-
-    private static void promise14PassThrows() {
-        WheatRun x = new WheatRun();
-        x.field(0, 0, 10, 10, 0);
-        Check.dueThrown("hours 0", x, Check.ARGUMENT, () -> x.pass(0, 0, 0, 0));
-        Check.dueThrown("hours 49", x, Check.ARGUMENT, () -> x.pass(49, 0, 0, 0));
-        Check.dueThrown("warmth -1", x, Check.ARGUMENT, () -> x.pass(1, -1, 0, 0));
-        Check.dueThrown("warmth 46", x, Check.ARGUMENT, () -> x.pass(1, 46, 0, 0));
-        Check.dueThrown("air -1", x, Check.ARGUMENT, () -> x.pass(1, 0, -1, 0));
-        Check.dueThrown("air 101", x, Check.ARGUMENT, () -> x.pass(1, 0, 101, 0));
-        Check.dueThrown("rain -1", x, Check.ARGUMENT, () -> x.pass(1, 0, 0, -1));
-        Check.dueThrown("rain 21", x, Check.ARGUMENT, () -> x.pass(1, 0, 0, 21));
-        Check.due("greatest of all", x.pass(48, 45, 100, 20), 0);
-        Check.due("NOW", x.many(0), 48);
-        Check.due("least of all", x.pass(1, 0, 0, 0), 0);
-        Check.due("NOW", x.many(0), 49);
-    }
-
-    private static void promise14PassUpToTheLastHour() {
-        WheatRun x = new WheatRun();
-        x.field(0, 0, 10, 10, 0);
-        for (int i = 0; i < 49; i++) {
-            x.pass(48, 0, 0, 0);
-        }
-        x.pass(40, 0, 0, 0);
-        Check.dueThrown("beyond 2400", x, Check.STATE, () -> x.pass(9, 30, 0, 0));
-        Check.dueThrown("beyond 2400, out of range", x, Check.ARGUMENT, () -> x.pass(49, 0, 0, 0));
-        Check.due("up to 2400", x.pass(8, 30, 0, 0), 0);
-        Check.due("NOW", x.many(0), 2400);
-        Check.due("RIPE", x.ofField(0, 4), 16);
-        Check.dueThrown("an hour at 2400", x, Check.STATE, () -> x.pass(1, 0, 0, 0));
-        Check.dueThrown("no hour at 2400", x, Check.ARGUMENT, () -> x.pass(0, 0, 0, 0));
-    }
-
-    private static void promise14PassCountsTickets() {
-        WheatRun x = new WheatRun();
-        x.field(0, 0, 100, 10, 0);
-        x.crop(0, 80, 15);
-        x.combine(0, 1);
-        x.combine(0, 1);
-        x.truck(0);
-        x.truck(0);
-        x.elevator(0, 500, 0, 23, 5, 40);
-        x.cut(0, 0);
-        x.cut(1, 0);
-        x.fetch(0, 0);
-        x.fetch(1, 1);
-        Check.due("none yet", x.pass(10, 0, 60, 0), 0);
-        x.haul(0, 0);
-        x.haul(1, 0);
-        Check.due("two in one hour", x.pass(3, 0, 60, 0), 2);
-        Check.due("TICKETS", x.many(7), 2);
-        Check.due("no more", x.pass(3, 0, 60, 0), 0);
-        x.fetch(0, 0);
-        x.pass(1, 0, 60, 0);
-        x.haul(0, 0);
-        Check.due("one more", x.pass(1, 0, 60, 0), 1);
-        Check.due("TICKETS", x.many(7), 3);
     }
 }

@@ -12,7 +12,6 @@ final class EdgeAskedTest {
         promise20IdleAndQueuedOfAll();
         promise21MeanDampAtBothEnds();
         promise21MeanDampByAcres();
-        promise21MeanDampWithoutAny();
         promise22ReadyByNow();
         promise22ReadyInAnHour();
         promise22ReadyInTheLongest();
@@ -144,17 +143,6 @@ final class EdgeAskedTest {
         x.crop(0, 0, 40);
         x.crop(1, 0, 5);
         Check.dueExactly("1 of 201 acres", x.meanDamp(), 1040.0 / 201.0);
-    }
-
-    /** "0 without any such": a last acre counts, and none is left when it is CUT. */
-    private static void promise21MeanDampWithoutAny() {
-        WheatRun x = Lands.ready(2, 10, 1);
-        Lands.pass(x, 1);
-        Check.dueExactly("one acre left", x.meanDamp(), 15.0);
-        Lands.pass(x, 1);
-        Check.dueExactly("none left", x.meanDamp(), 0.0);
-        x.field(0, 0, 1, 10, 0);
-        Check.dueExactly("one told", x.meanDamp(), 30.0);
     }
 
     private static WheatRun at(int clock, int ripe, int damp) {
@@ -290,12 +278,7 @@ final class EdgeAskedTest {
 
     /** It breaks in the hours that are tried as it would: with a WEAR of 90, 10 acres are the last. */
     private static void promise23BrokenInThem() {
-        WheatRun x = new WheatRun();
-        x.field(0, 0, 90, 10, 0);
-        x.combine(0, 10);
-        Lands.shatter(x, 0, 100);
-        Lands.passUntil(x, 7);
-        x.cut(0, 0);
+        WheatRun x = Lands.shattered(90, 10, 100, 10);
         Lands.pass(x, 9);
         Check.due("WEAR", x.ofCombine(0, 3), 90);
         x.field(0, 0, 10, 11, 0);

@@ -216,14 +216,8 @@ final class EdgeEmptyTest {
 
     /** "if an acre BRINGS any": none from a FIELD that is all LOST, so that waiting costs nothing more. */
     private static void nothingBrought() {
-        WheatRun x = new WheatRun();
-        x.field(0, 0, 200, 90, 0);
-        x.combine(0, 20);
-        Lands.shatter(x, 0, 100);
+        WheatRun x = Lands.shattered(200, 90, 100, 20);
         Check.due("waiting", x.waiting(0, 48, 0, 60, 20), 0);
-        Check.due("nextField", x.nextField(0, 48, 0, 60), -1);
-        Lands.passUntil(x, 7);
-        x.cut(0, 0);
         Check.due("nextField where it is sent", x.nextField(0, 48, 0, 60), -1);
         Lands.pass(x, 1);
         Check.due("cuts its PACE", x.ofField(0, 3), 20);
@@ -302,16 +296,10 @@ final class EdgeEmptyTest {
 
     /** A FIELD of 20 bushels with LOST 95, of which one acre is CUT; a TRUCK and an ELEVATOR at its MILE. */
     private static WheatRun oneBushelCut() {
-        WheatRun x = new WheatRun();
-        x.field(0, 0, 200, 20, 0);
-        x.combine(0, 1);
-        x.truck(0);
+        WheatRun x = Lands.shattered(200, 20, 95, 1);
         x.elevator(0, 500, 0, 23, 5, 40);
         Check.due("CORRECTION before any cut", x.ofField(0, 10), -1);
-        Lands.shatter(x, 0, 95);
-        Lands.passUntil(x, 7);
         Check.due("one bushel of any", x.nextField(0, 1, 0, 60), 0);
-        x.cut(0, 0);
         Lands.pass(x, 1);
         return x;
     }

@@ -189,12 +189,7 @@ final class EdgeFullTest {
 
     /** "than the room in its TANK, divided by what one BRINGS": 50 times 95 / 100 is 47; 8 fill 376 of 400. */
     private static void tankHasNoRoomForAnAcre() {
-        WheatRun x = new WheatRun();
-        x.field(0, 0, 200, 50, 0);
-        x.combine(0, 8);
-        Lands.shatter(x, 0, 5);
-        Lands.passUntil(x, 7);
-        x.cut(0, 0);
+        WheatRun x = Lands.shattered(200, 50, 5, 8);
         Lands.pass(x, 1);
         Check.due("8 times 47", x.ofCombine(0, 1), 376);
         Check.due("IDLE", x.ofCombine(0, 7), 0);
@@ -325,25 +320,14 @@ final class EdgeFullTest {
         }
     }
 
-    /** A FIELD of acres that bring nothing, so that no TANK ends the cut; CLOCK 7. */
-    private static WheatRun worn(int pace, int acres) {
-        WheatRun x = new WheatRun();
-        x.field(0, 0, acres, 10, 0);
-        x.combine(0, pace);
-        Lands.shatter(x, 0, 100);
-        Lands.passUntil(x, 7);
-        x.cut(0, 0);
-        return x;
-    }
-
-    /** "WEAR is 1 more for each acre; with 100 or more it is BROKEN then." */
+    /** "WEAR is 1 more for each acre; with 100 or more it is BROKEN then."; no TANK ends the cut of what brings nothing. */
     private static void wearIsFull() {
-        WheatRun x = worn(11, 99);
+        WheatRun x = Lands.shattered(99, 10, 100, 11);
         Lands.pass(x, 16);
         Check.due("WEAR 99", x.ofCombine(0, 3), 99);
         Check.due("not BROKEN", x.ofCombine(0, 4), 0);
         Check.due("waits, as nothing is left", x.ofCombine(0, 7), 7);
-        WheatRun y = worn(10, 200);
+        WheatRun y = Lands.shattered(200, 10, 100, 10);
         Lands.pass(y, 9);
         Check.due("WEAR 90", y.ofCombine(0, 3), 90);
         Check.due("not BROKEN", y.ofCombine(0, 4), 0);
@@ -383,7 +367,7 @@ final class EdgeFullTest {
 
     /** "4 those that are BROKEN": from none to all 4, and mended one by one, as MONEY lasts. */
     private static void allAreBroken() {
-        WheatRun x = worn(20, 200);
+        WheatRun x = Lands.shattered(200, 10, 100, 20);
         x.field(0, 0, 200, 10, 0);
         for (int i = 1; i < 4; i++) {
             x.combine(0, 20);

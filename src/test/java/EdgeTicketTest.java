@@ -13,22 +13,20 @@ final class EdgeTicketTest {
         discountOfTheDampest();
         meterOfTheLeastDrift();
         meterOfTheGreatestDrift();
-        meterByWearAhead();
         meterAfterMending();
-        meterHourByHour();
         correctionWithAllSold();
         correctionWithOneBushelInATank();
         correctionWithOneBushelOnATruck();
         correctionOfTheGreatestSum();
         ticketsOfOneHourByTrucks();
-        ownedByFarmerAlone();
+        owedToFarmerAlone();
         Check.end();
     }
 
-    /** One TICKET of one hour's cut: acres of a YIELD at a PRICE; the SHARE is that of FARMER 2's FIELD. */
-    private static WheatRun sold(int acres, int bushels, int share, int price) {
+    /** One TICKET of one hour's cut, at a PRICE: so many acres of a YIELD, from a FIELD with a SHARE. */
+    private static WheatRun sold(int farmer, int share, int acres, int bushels, int price) {
         WheatRun x = new WheatRun();
-        x.field(2, 0, 200, bushels, share);
+        x.field(farmer, 0, 200, bushels, share);
         x.crop(0, 80, 15);
         x.combine(0, acres);
         x.truck(0);
@@ -36,11 +34,7 @@ final class EdgeTicketTest {
         Lands.pass(x, 7);
         x.price(price);
         x.cut(0, 0);
-        x.fetch(0, 0);
-        Lands.pass(x, 1);
-        x.cut(0, -1);
-        x.haul(0, 0);
-        Check.due("TICKETS", x.pass(1, 0, 60, 0), 1);
+        Lands.sell(x, 0);
         Check.due("bushels", x.ofTicket(0, 1), acres * bushels);
         return x;
     }
@@ -49,7 +43,7 @@ final class EdgeTicketTest {
     private static void worthOfTheLeastPrice() {
         int[][] rows = {{1, 10, 0}, {3, 33, 0}, {1, 90, 0}, {10, 10, 1}, {2, 50, 1}, {8, 50, 4}, {19, 21, 3}};
         for (int[] row : rows) {
-            WheatRun x = sold(row[0], row[1], 50, 1);
+            WheatRun x = sold(2, 50, row[0], row[1], 1);
             Check.due(row[0] + " times " + row[1], x.ofTicket(0, 6), row[2]);
         }
     }
@@ -70,33 +64,18 @@ final class EdgeTicketTest {
         }
     }
 
-    private static WheatRun soldSingle(int price, int share) {
-        WheatRun x = new WheatRun();
-        x.field(2, 0, 200, 20, share);
-        x.combine(0, 1);
-        x.truck(0);
-        x.elevator(0, 9999, 0, 23, 15, 40);
-        Lands.shatter(x, 0, 95);
-        Lands.passUntil(x, 7);
-        x.price(price);
-        x.cut(0, 0);
-        x.fetch(0, 0);
-        Lands.pass(x, 1);
-        x.cut(0, -1);
-        x.haul(0, 0);
-        Check.due("TICKETS", x.pass(1, 0, 60, 0), 1);
-        Check.due("bushels", x.ofTicket(0, 1), 1);
-        return x;
-    }
-
     /** A TICKET of one bushel is written, be it worth 9 or nothing; it brings no MONEY. */
     private static void worthOfOneBushel() {
         int[][] rows = {{999, 9}, {400, 4}, {100, 1}, {99, 0}, {1, 0}};
         for (int[] row : rows) {
-            WheatRun x = soldSingle(row[0], 50);
+            WheatRun x = Lands.shattered(200, 20, 95, 1);
+            x.elevator(0, 9999, 0, 23, 15, 40);
+            x.price(row[0]);
+            Lands.sell(x, 0);
+            Check.due("bushels", x.ofTicket(0, 1), 1);
             Check.due("at PRICE " + row[0], x.ofTicket(0, 6), row[1]);
-            Check.due("LANDLORD", x.owed(2, true), row[1] / 2);
-            Check.due("FARMER", x.owed(2, false), row[1] - row[1] / 2);
+            Check.due("LANDLORD", x.owed(0, true), row[1] / 2);
+            Check.due("FARMER", x.owed(0, false), row[1] - row[1] / 2);
             Check.due("MONEY", x.many(8), 1000);
         }
     }
@@ -105,7 +84,7 @@ final class EdgeTicketTest {
     private static void shareOfNoneAndOfHalf() {
         int[][] rows = {{0, 0}, {1, 4}, {49, 196}, {50, 200}};
         for (int[] row : rows) {
-            WheatRun x = sold(10, 10, row[0], 400);
+            WheatRun x = sold(2, row[0], 10, 10, 400);
             Check.due("SHARE " + row[0] + ": LANDLORD", x.owed(2, true), row[1]);
             Check.due("SHARE " + row[0] + ": FARMER", x.owed(2, false), 400 - row[1]);
         }
@@ -115,7 +94,7 @@ final class EdgeTicketTest {
     private static void shareRoundedDown() {
         int[][] rows = {{99, 1, 0}, {100, 1, 1}, {101, 1, 1}, {1, 50, 0}, {2, 50, 1}, {3, 50, 1}, {199, 50, 99}, {199, 1, 1}};
         for (int[] row : rows) {
-            WheatRun x = sold(10, 10, row[1], row[0]);
+            WheatRun x = sold(2, row[1], 10, 10, row[0]);
             Check.due("worth", x.ofTicket(0, 6), row[0]);
             Check.due(row[1] + " of 100 of " + row[0], x.owed(2, true), row[2]);
             Check.due("the rest of " + row[0], x.owed(2, false), row[0] - row[2]);
@@ -126,20 +105,11 @@ final class EdgeTicketTest {
     private static void moneyByTens() {
         int[][] rows = {{1, 10, 2}, {1, 11, 2}, {1, 19, 2}, {1, 20, 4}, {1, 21, 4}, {3, 33, 18}, {2, 50, 20}, {1, 90, 18}};
         for (int[] row : rows) {
-            Check.due("MONEY of " + row[0] * row[1], sold(row[0], row[1], 0, 400).many(8), 1000 + row[2]);
+            Check.due("MONEY of " + row[0] * row[1], sold(2, 0, row[0], row[1], 400).many(8), 1000 + row[2]);
         }
-        WheatRun x = new WheatRun();
-        x.field(0, 0, 10, 10, 0);
-        x.combine(0, 1);
-        x.truck(0);
+        WheatRun x = Lands.shattered(10, 10, 5, 1);
         x.elevator(0, 9999, 0, 23, 15, 40);
-        Lands.shatter(x, 0, 5);
-        Lands.passUntil(x, 7);
-        x.cut(0, 0);
-        x.fetch(0, 0);
-        Lands.pass(x, 1);
-        x.haul(0, 0);
-        Lands.pass(x, 1);
+        Lands.sell(x, 0);
         Check.due("bushels", x.ofTicket(0, 1), 9);
         Check.due("MONEY of 9", x.many(8), 1000);
     }
@@ -189,28 +159,6 @@ final class EdgeTicketTest {
         Check.due("BROKEN then", x.ofCombine(3, 4), 1);
     }
 
-    /** "WEAR / 20 as it was ahead of that hour": 19 counts as 0, 20 as 1, though 10 more come in the hour. */
-    private static void meterByWearAhead() {
-        int[][] rows = {{19, 96}, {20, 97}, {0, 96}};
-        for (int[] row : rows) {
-            WheatRun x = new WheatRun();
-            x.field(0, 0, row[0] == 0 ? 1 : row[0], 10, 0);
-            x.field(0, 0, 100, 10, 0);
-            x.combine(0, 20);
-            Lands.shatter(x, 0, 100);
-            Lands.passUntil(x, 7);
-            if (row[0] > 0) {
-                x.cut(0, 0);
-                Lands.pass(x, 1);
-            }
-            Check.due("WEAR ahead", x.ofCombine(0, 3), row[0]);
-            x.crop(1, 80, 15);
-            x.cut(0, 1);
-            Lands.pass(x, 1);
-            Check.due("MAP with a WEAR of " + row[0], x.ofField(1, 7), 2 * row[1]);
-        }
-    }
-
     private static void meterAfterMending() {
         WheatRun x = Lands.ready(200, 10, 20);
         Lands.pass(x, 1);
@@ -220,24 +168,16 @@ final class EdgeTicketTest {
         Check.due("96 of 100 again", x.ofField(0, 7), 384);
     }
 
-    /** "tells, for each hour": what is rounded down is that of each hour, not of the sum. */
-    private static void meterHourByHour() {
-        WheatRun x = Lands.ready(200, 10, 1);
-        Lands.pass(x, 5);
-        Check.due("5 times 9.6", x.ofField(0, 7), 45);
-        Check.due("in the TANK", x.ofCombine(0, 1), 50);
-    }
-
     /** "what the TICKETS of that FIELD say in sum, times 1000, divided by the MAP". */
     private static void correctionWithAllSold() {
-        Check.due("10000 / 9", sold(1, 10, 0, 400).ofField(0, 10), 1111);
-        Check.due("25000 / 24", sold(1, 25, 0, 400).ofField(0, 10), 1041);
-        Check.due("90000 / 86", sold(1, 90, 0, 400).ofField(0, 10), 1046);
+        Check.due("10000 / 9", sold(2, 0, 1, 10, 400).ofField(0, 10), 1111);
+        Check.due("25000 / 24", sold(2, 0, 1, 25, 400).ofField(0, 10), 1041);
+        Check.due("90000 / 86", sold(2, 0, 1, 90, 400).ofField(0, 10), 1046);
         Check.due("before any", Lands.ready(1, 10, 1).ofField(0, 10), -1);
     }
 
     private static WheatRun soldButOne() {
-        WheatRun x = sold(1, 20, 0, 400);
+        WheatRun x = sold(2, 0, 1, 20, 400);
         Check.due("20000 / 19", x.ofField(0, 10), 1052);
         Lands.shatter(x, 0, 95);
         Lands.passUntil(x, 7);
@@ -308,20 +248,9 @@ final class EdgeTicketTest {
     }
 
     /** "all TICKETS of his FIELDS": those of the FARMERS 0 and 3 too, and of no other. */
-    private static void ownedByFarmerAlone() {
+    private static void owedToFarmerAlone() {
         for (int farmer = 0; farmer < 4; farmer++) {
-            WheatRun x = new WheatRun();
-            x.field(farmer, 0, 200, 10, 50);
-            x.crop(0, 80, 15);
-            x.combine(0, 10);
-            x.truck(0);
-            x.elevator(0, 9999, 0, 23, 15, 40);
-            Lands.pass(x, 7);
-            x.cut(0, 0);
-            x.fetch(0, 0);
-            Lands.pass(x, 1);
-            x.haul(0, 0);
-            Lands.pass(x, 1);
+            WheatRun x = sold(farmer, 50, 10, 10, 400);
             for (int other = 0; other < 4; other++) {
                 Check.due("FARMER " + other, x.owed(other, false), other == farmer ? 200 : 0);
                 Check.due("LANDLORDS of " + other, x.owed(other, true), other == farmer ? 200 : 0);

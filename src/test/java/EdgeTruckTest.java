@@ -251,16 +251,10 @@ final class EdgeTruckTest {
 
     /** "if its LOAD is 0, or of the FIELD of what is in the TANK": one bushel of another FIELD is enough. */
     private static void takesOfItsFieldAlone() {
-        WheatRun x = new WheatRun();
-        x.field(0, 0, 10, 20, 0);
-        x.combine(0, 1);
-        x.combine(0, 1);
-        x.truck(0);
-        Lands.shatter(x, 0, 95);
+        WheatRun x = Lands.shattered(10, 20, 95, 1);
         x.field(0, 0, 10, 10, 0);
-        Lands.passUntil(x, 7);
         x.crop(1, 80, 15);
-        x.cut(0, 0);
+        x.combine(0, 1);
         x.cut(1, 1);
         x.fetch(0, 0);
         Lands.pass(x, 1);
@@ -328,14 +322,8 @@ final class EdgeTruckTest {
     private static void elevatorByRoomOfOne() {
         int[][] rows = {{1, 0}, {2, 1}};
         for (int[] row : rows) {
-            WheatRun x = new WheatRun();
-            x.field(0, 0, 10, 20, 0);
-            x.combine(0, 2);
-            x.truck(0);
+            WheatRun x = Lands.shattered(10, 20, 95, 2);
             x.elevator(0, row[0], 0, 23, 5, 40);
-            Lands.shatter(x, 0, 95);
-            Lands.passUntil(x, 7);
-            x.cut(0, 0);
             x.fetch(0, 0);
             Lands.pass(x, 1);
             Check.due("LOAD", x.ofTruck(0, 1), 2);

@@ -7,24 +7,16 @@ final class HourCombineTest {
         goesTowardsItsField();
         doesNothingWithoutField();
         waitsByClock();
-        waitsByCrop();
-        waitsByRain();
         cutsByTheCropOfThatHour();
-        cutsItsPace();
         cutsWhatIsLeft();
-        cutsWhatFits();
         cutsWhatShatteredPartly();
         cutsWhatBringsNothing();
-        cutsNothingBringingWithAFullTank();
-        waitsWithAFullTankForSingleBushels();
         cutsSingleBushels();
         waitsWithAnothersBushels();
         waitsWithAnothersBushelsForNothing();
-        breaks();
         keepsTheGreatestDamp();
         forgetsDampWhenEmpty();
         ignoresDampOfCutsThatBringNothing();
-        combinesByNumbers();
         Check.end();
     }
 
@@ -109,26 +101,6 @@ final class HourCombineTest {
         dueCombine("CLOCK 8 of the next day", x, 0, 170, 17, 15);
     }
 
-    private static void waitsByCrop() {
-        int[][] crops = {{79, 15, 0}, {80, 15, 1}, {100, 19, 1}, {100, 20, 0}, {100, 40, 0}, {80, 5, 1}};
-        for (int[] crop : crops) {
-            WheatRun x = with(50, 10, 5);
-            pass(x, 7);
-            x.crop(0, crop[0], crop[1]);
-            x.pass(1, 0, crop[1] > 25 ? 100 : crop[1] * 4, 0);
-            dueCombine("RIPE " + crop[0] + ", DAMP " + crop[1], x, 0, 50 * crop[2], 5 * crop[2], 8 - crop[2]);
-        }
-    }
-
-    private static void waitsByRain() {
-        WheatRun x = with(50, 10, 5);
-        pass(x, 7);
-        x.pass(1, 0, 60, 1);
-        dueCombine("RAIN", x, 0, 0, 0, 8);
-        pass(x, 1);
-        dueCombine("RAIN no more", x, 0, 50, 5, 8);
-    }
-
     private static void cutsByTheCropOfThatHour() {
         WheatRun x = with(50, 10, 5);
         pass(x, 7);
@@ -138,17 +110,6 @@ final class HourCombineTest {
         x.crop(0, 80, 19);
         x.pass(1, 0, 80, 0);
         dueCombine("20 by then", x, 0, 50, 5, 8);
-    }
-
-    private static void cutsItsPace() {
-        WheatRun x = with(200, 10, 20);
-        pass(x, 8);
-        dueCombine("20 acres", x, 0, 200, 20, 7);
-        Check.due("FIELD of the TANK", x.ofCombine(0, 2), 0);
-        Check.due("WEAR", x.ofCombine(0, 3), 20);
-        Check.due("CUT", x.ofField(0, 3), 20);
-        Check.due("ACRES not CUT", x.many(2), 180);
-        Check.due("MILE", x.ofCombine(0, 0), 0);
     }
 
     private static void cutsWhatIsLeft() {
@@ -161,21 +122,6 @@ final class HourCombineTest {
         dueCombine("all CUT", x, 0, 50, 5, 8);
         Check.due("CUT", x.ofField(0, 3), 5);
         Check.due("WEAR", x.ofCombine(0, 3), 5);
-    }
-
-    private static void cutsWhatFits() {
-        WheatRun x = with(100, 90, 20);
-        pass(x, 8);
-        dueCombine("4 fit", x, 0, 360, 4, 7);
-        pass(x, 1);
-        dueCombine("none fits", x, 0, 360, 4, 8);
-        WheatRun y = with(100, 50, 7);
-        pass(y, 8);
-        dueCombine("7 fit", y, 0, 350, 7, 7);
-        pass(y, 1);
-        dueCombine("one more fits", y, 0, 400, 8, 7);
-        pass(y, 1);
-        dueCombine("full", y, 0, 400, 8, 8);
     }
 
     private static void cutsWhatShatteredPartly() {
@@ -212,32 +158,12 @@ final class HourCombineTest {
         Check.due("CORRECTION", y.ofField(0, 10), -1);
     }
 
-    private static void cutsNothingBringingWithAFullTank() {
-        WheatRun x = with(100, 40, 10);
-        pass(x, 9);
-        dueCombine("full", x, 0, 400, 10, 8);
-        shatterWholly(x, 15);
-        pass(x, 3);
-        dueCombine("at CLOCK 8", x, 0, 400, 20, 30);
-    }
-
     /** LOST 95: what had a YIELD of 20 brings 1. */
     private static void shatterToOne(WheatRun x, int field) {
         x.crop(field, 100, 30);
         x.pass(19, 0, 0, 20);
         x.crop(field, 100, 15);
         Check.due("LOST", x.ofField(field, 6), 95);
-    }
-
-    private static void waitsWithAFullTankForSingleBushels() {
-        WheatRun x = with(100, 20, 20);
-        pass(x, 8);
-        dueCombine("full", x, 0, 400, 20, 7);
-        shatterToOne(x, 0);
-        pass(x, 5);
-        dueCombine("not 401", x, 0, 400, 20, 7 + 19 + 5);
-        pass(x, 1);
-        dueCombine("not 401 by day", x, 0, 400, 20, 32);
     }
 
     private static void cutsSingleBushels() {
@@ -310,35 +236,6 @@ final class HourCombineTest {
         dueCombine("waits at 0, that brings nothing", x, 0, 50, 5, 22);
     }
 
-    private static void breaks() {
-        WheatRun x = with(200, 10, 11);
-        x.field(0, 50, 10, 10, 0);
-        shatterWholly(x, 15);
-        pass(x, 3);
-        pass(x, 15);
-        Check.due("WEAR stops", x.ofCombine(0, 3), 110);
-        Check.due("BROKEN", x.ofCombine(0, 4), 1);
-        Check.due("IDLE", x.ofCombine(0, 7), 28);
-        Check.due("BROKEN ones", x.many(4), 1);
-        x.cut(0, 1);
-        pass(x, 2);
-        Check.due("does not go", x.ofCombine(0, 0), 0);
-        Check.due("does not wait", x.ofCombine(0, 7), 28);
-        x.mend(0);
-        pass(x, 1);
-        Check.due("goes when mended", x.ofCombine(0, 0), 20);
-        WheatRun z = with(99, 10, 11);
-        shatterWholly(z, 15);
-        pass(z, 20);
-        Check.due("WEAR of 99 acres", z.ofCombine(0, 3), 99);
-        Check.due("99 is not BROKEN", z.ofCombine(0, 4), 0);
-        WheatRun w = with(100, 10, 20);
-        shatterWholly(w, 15);
-        pass(w, 20);
-        Check.due("WEAR of 100 acres", w.ofCombine(0, 3), 100);
-        Check.due("100 is BROKEN", w.ofCombine(0, 4), 1);
-    }
-
     private static void keepsTheGreatestDamp() {
         WheatRun x = with(200, 70, 5);
         x.truck(0);
@@ -405,18 +302,5 @@ final class HourCombineTest {
         x.pass(1, 0, 76, 0);
         Check.due("LOAD", x.ofTruck(0, 1), 50);
         Check.due("DAMP", x.ofTruck(0, 3), 12);
-    }
-
-    private static void combinesByNumbers() {
-        WheatRun x = with(5, 10, 3);
-        x.combine(0, 4);
-        x.cut(1, 0);
-        pass(x, 8);
-        dueCombine("the first", x, 0, 30, 3, 7);
-        dueCombine("the second", x, 1, 20, 2, 7);
-        pass(x, 1);
-        dueCombine("the first waits", x, 0, 30, 3, 8);
-        dueCombine("the second waits", x, 1, 20, 2, 8);
-        Check.due("all IDLE", x.many(11), 16);
     }
 }

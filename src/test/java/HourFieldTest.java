@@ -1,19 +1,24 @@
-/** Promise 14, section 1: what an hour does to a FIELD. */
+/** Promise 14, section 1 of the terms: what an hour does to a FIELD, and each edge that it names. */
 final class HourFieldTest {
     private HourFieldTest() {
     }
 
     public static void main(String[] args) {
-        ripensByWarmth();
-        ripensToItsEnd();
+        fieldAtFirst();
+        fieldAtBothEnds();
+        warmthOfAnHour();
+        rainOrNone();
+        ripeEnoughToDry();
+        ripeEnoughToDryByThen();
+        dampByAQuarterOfAir();
+        lostWhenRipe();
+        lostWhenDry();
+        lostByRain();
+        lostByRainRipeByThen();
+        lostByEitherAlone();
+        bringsNothingAnyMore();
+        hoursBeforeItWasTold();
         soaksByRain();
-        driesWhenRipe();
-        driesByTheRipenessOfThatHour();
-        driesTowardsAir();
-        shattersInTheAfternoon();
-        shattersWhenDryAndRipe();
-        shattersByRain();
-        shattersToItsEnd();
         fieldByField();
         Check.end();
     }
@@ -25,42 +30,168 @@ final class HourFieldTest {
         return x;
     }
 
-    private static int ripeAfter(int ripe, int hours, int warmth) {
-        WheatRun x = with(ripe, 30);
-        x.pass(hours, warmth, 0, 0);
-        return x.ofField(0, 4);
-    }
-
     private static int dampAfter(int ripe, int damp, int hours, int air, int rain) {
         WheatRun x = with(ripe, damp);
         x.pass(hours, 0, air, rain);
         return x.ofField(0, 5);
     }
 
-    private static int lostAfter(int ripe, int damp, int hours, int air, int rain) {
-        WheatRun x = with(ripe, damp);
-        x.pass(hours, 0, air, rain);
+    /** "CUT (0 at first)", "RIPE (0 to 100; 0 at first), DAMP (5 to 40: percents; 30 at first)", "LOST (.. 0 at first)". */
+    private static void fieldAtFirst() {
+        WheatRun x = new WheatRun();
+        x.field(3, 300, 200, 90, 50);
+        int[] want = {3, 300, 200, 0, 0, 30, 0, 0, 0, 0, -1, 0};
+        for (int what = 0; what <= 11; what++) {
+            Check.due("ofField(0, " + what + ")", x.ofField(0, what), want[what]);
+        }
+    }
+
+    /** "at a MILE (0 to 300), with ACRES (1 to 200), .. a YIELD (10 to 90 bushels an acre)": both ends act. */
+    private static void fieldAtBothEnds() {
+        WheatRun x = new WheatRun();
+        x.field(0, 0, 1, 10, 0);
+        x.field(3, 300, 200, 90, 50);
+        x.crop(0, 80, 15);
+        x.crop(1, 80, 15);
+        x.combine(0, 20);
+        x.combine(300, 20);
+        Lands.pass(x, 7);
+        x.cut(0, 0);
+        x.cut(1, 1);
+        Lands.pass(x, 1);
+        Check.due("the only acre, of 10", x.ofCombine(0, 1), 10);
+        Check.due("4 of 200 acres, of 90", x.ofCombine(1, 1), 360);
+        Check.due("not CUT", x.many(2), 196);
+    }
+
+    /** "RIPE is 2 more with a WARMTH of 30 or more, otherwise 1 more with 15 or more". */
+    private static void warmthOfAnHour() {
+        int[][] rows = {{0, 50}, {14, 50}, {15, 51}, {16, 51}, {29, 51}, {30, 52}, {45, 52}};
+        for (int[] row : rows) {
+            WheatRun x = with(50, 30);
+            x.pass(1, row[0], 50, 0);
+            Check.due("RIPE with WARMTH " + row[0], x.ofField(0, 4), row[1]);
+            x.pass(1, row[0], 50, 20);
+            Check.due("RIPE with RAIN too", x.ofField(0, 4), 2 * row[1] - 50);
+        }
+    }
+
+    /** "With RAIN DAMP is RAIN more ..; without it ..": a RAIN of 1 is one, and nothing dries in it. */
+    private static void rainOrNone() {
+        int[][] rows = {{0, 0, 19}, {0, 1, 21}, {100, 0, 21}, {100, 1, 21}, {0, 2, 22}};
+        for (int[] row : rows) {
+            WheatRun x = with(100, 20);
+            x.pass(1, 0, row[0], row[1]);
+            Check.due("DAMP with AIR " + row[0] + ", RAIN " + row[1], x.ofField(0, 5), row[2]);
+        }
+    }
+
+    /** "with a RIPE of 60 or more". */
+    private static void ripeEnoughToDry() {
+        int[][] rows = {{0, 30}, {59, 30}, {60, 29}, {61, 29}, {100, 29}};
+        for (int[] row : rows) {
+            WheatRun x = with(row[0], 30);
+            x.pass(1, 0, 50, 0);
+            Check.due("DAMP with RIPE " + row[0], x.ofField(0, 5), row[1]);
+        }
+    }
+
+    /** "each time by what there is by then": the RIPE of the same hour. */
+    private static void ripeEnoughToDryByThen() {
+        int[][] rows = {{57, 30, 30}, {58, 30, 29}, {58, 29, 30}, {59, 15, 29}, {59, 14, 30}};
+        for (int[] row : rows) {
+            WheatRun x = with(row[0], 30);
+            x.pass(1, row[1], 50, 0);
+            Check.due("DAMP with RIPE " + row[0] + " and WARMTH " + row[1], x.ofField(0, 5), row[2]);
+        }
+    }
+
+    /** "DAMP is 1 more, if it is below AIR / 4, and 1 less, if it is above that (5 at least)". */
+    private static void dampByAQuarterOfAir() {
+        int[][] rows = {
+            {10, 36, 9}, {10, 39, 9}, {10, 40, 10}, {10, 43, 10}, {10, 44, 11}, {10, 100, 11},
+            {5, 0, 5}, {5, 19, 5}, {5, 20, 5}, {5, 23, 5}, {5, 24, 6}, {6, 0, 5}, {6, 23, 5}, {6, 24, 6},
+            {24, 100, 25}, {25, 100, 25}, {26, 100, 25}, {40, 100, 39}, {40, 0, 39}, {25, 99, 24},
+        };
+        for (int[] row : rows) {
+            WheatRun x = with(80, row[0]);
+            x.pass(1, 0, row[1], 0);
+            Check.due("DAMP " + row[0] + " with AIR " + row[1], x.ofField(0, 5), row[2]);
+        }
+    }
+
+    private static int lostAtNoon(int ripe, int damp, int warmth, int air, int rain) {
+        WheatRun x = with(0, 30);
+        Lands.pass(x, 11);
+        x.crop(0, ripe, damp);
+        x.pass(1, warmth, air, rain);
         return x.ofField(0, 6);
     }
 
-    private static void ripensByWarmth() {
-        Check.due("warmth 0", ripeAfter(10, 1, 0), 10);
-        Check.due("warmth 14", ripeAfter(10, 1, 14), 10);
-        Check.due("warmth 15", ripeAfter(10, 1, 15), 11);
-        Check.due("warmth 29", ripeAfter(10, 1, 29), 11);
-        Check.due("warmth 30", ripeAfter(10, 1, 30), 12);
-        Check.due("warmth 45", ripeAfter(10, 5, 45), 20);
-        WheatRun x = with(10, 30);
-        x.pass(2, 30, 0, 20);
-        Check.due("with rain too", x.ofField(0, 4), 14);
+    /** "With a RIPE of 100, if the CLOCK is 12 to 17": 99 is not ripe enough, but may be by then. */
+    private static void lostWhenRipe() {
+        Check.due("RIPE 99", lostAtNoon(99, 10, 14, 40, 0), 0);
+        Check.due("RIPE 99 and 1", lostAtNoon(99, 10, 15, 40, 0), 1);
+        Check.due("RIPE 98 and 1", lostAtNoon(98, 10, 29, 40, 0), 0);
+        Check.due("RIPE 98 and 2", lostAtNoon(98, 10, 30, 40, 0), 1);
+        Check.due("RIPE 100", lostAtNoon(100, 10, 0, 40, 0), 1);
     }
 
-    private static void ripensToItsEnd() {
-        Check.due("99 and 2", ripeAfter(99, 1, 30), 100);
-        Check.due("99 and 1", ripeAfter(99, 1, 15), 100);
-        Check.due("98 and 2", ripeAfter(98, 1, 30), 100);
-        Check.due("100 and more", ripeAfter(100, 3, 30), 100);
-        Check.due("100, cold", ripeAfter(100, 3, 0), 100);
+    /** "and DAMP below 14": that of the same hour. */
+    private static void lostWhenDry() {
+        Check.due("DAMP 14", lostAtNoon(100, 14, 0, 56, 0), 0);
+        Check.due("DAMP 13", lostAtNoon(100, 13, 0, 52, 0), 1);
+        Check.due("DAMP 14 less 1", lostAtNoon(100, 14, 0, 52, 0), 1);
+        Check.due("DAMP 13 and 1", lostAtNoon(100, 13, 0, 56, 0), 0);
+        Check.due("DAMP 15 less 1", lostAtNoon(100, 15, 0, 52, 0), 0);
+        Check.due("DAMP 5", lostAtNoon(100, 5, 0, 0, 0), 1);
+    }
+
+    /** "with a RIPE of 100 and RAIN of 10 or more it is 5 more": by night too. */
+    private static void lostByRain() {
+        int[][] rows = {{100, 0, 0}, {100, 9, 0}, {100, 10, 5}, {100, 11, 5}, {100, 20, 5}, {99, 10, 0}, {99, 20, 0}};
+        for (int[] row : rows) {
+            WheatRun x = with(row[0], 30);
+            x.pass(1, 0, 50, row[1]);
+            Check.due("LOST with RIPE " + row[0] + ", RAIN " + row[1], x.ofField(0, 6), row[2]);
+        }
+    }
+
+    private static void lostByRainRipeByThen() {
+        int[][] rows = {{99, 14, 0}, {99, 15, 5}, {98, 29, 0}, {98, 30, 5}, {97, 45, 0}};
+        for (int[] row : rows) {
+            WheatRun x = with(row[0], 30);
+            x.pass(1, row[1], 50, 10);
+            Check.due("LOST with RIPE " + row[0] + ", WARMTH " + row[1], x.ofField(0, 6), row[2]);
+        }
+    }
+
+    /** A RAIN of 10 makes the driest FIELD damper than 14, so that an hour takes 1 or 5, never 6. */
+    private static void lostByEitherAlone() {
+        Check.due("DAMP 5, RAIN 10", lostAtNoon(100, 5, 0, 40, 10), 5);
+        Check.due("DAMP 5, RAIN 9", lostAtNoon(100, 5, 0, 40, 9), 0);
+        Check.due("DAMP 5, RAIN 8", lostAtNoon(100, 5, 0, 40, 8), 1);
+    }
+
+    /** "An acre BRINGS YIELD times (100 less LOST) / 100 bushels", rounded down: 1 of LOST 90, 0 of LOST 95. */
+    private static void bringsNothingAnyMore() {
+        int[][] rows = {{10, 85, 1}, {10, 90, 1}, {10, 95, 0}, {19, 95, 0}, {20, 95, 1}, {90, 95, 4}, {90, 100, 0}, {10, 5, 9}};
+        for (int[] row : rows) {
+            WheatRun x = Lands.shattered(10, row[0], row[1], 1);
+            Lands.pass(x, 1);
+            Check.due("YIELD " + row[0] + ", LOST " + row[1], x.ofCombine(0, 1), row[2]);
+            Check.due("its acre is CUT", x.ofField(0, 3), 1);
+        }
+    }
+
+    private static void hoursBeforeItWasTold() {
+        WheatRun x = new WheatRun();
+        x.pass(40, 45, 0, 20);
+        x.field(0, 0, 10, 10, 0);
+        Check.due("RIPE", x.ofField(0, 4), 0);
+        Check.due("DAMP", x.ofField(0, 5), 30);
+        x.pass(1, 45, 0, 0);
+        Check.due("RIPE then", x.ofField(0, 4), 2);
     }
 
     private static void soaksByRain() {
@@ -69,89 +200,6 @@ final class HourFieldTest {
         Check.due("up to 40", dampAfter(0, 20, 1, 0, 20), 40);
         Check.due("40 at most", dampAfter(0, 21, 1, 0, 20), 40);
         Check.due("40 at most, ripe", dampAfter(100, 40, 3, 0, 1), 40);
-    }
-
-    private static void driesWhenRipe() {
-        Check.due("RIPE 59", dampAfter(59, 30, 3, 0, 0), 30);
-        Check.due("RIPE 60", dampAfter(60, 30, 3, 0, 0), 27);
-        Check.due("RIPE 59 in damp air", dampAfter(59, 10, 3, 100, 0), 10);
-    }
-
-    private static void driesByTheRipenessOfThatHour() {
-        WheatRun x = with(58, 30);
-        x.pass(1, 15, 0, 0);
-        Check.due("59 by then", x.ofField(0, 5), 30);
-        x.pass(1, 15, 0, 0);
-        Check.due("60 by then", x.ofField(0, 5), 29);
-    }
-
-    private static void driesTowardsAir() {
-        Check.due("air 43 is 10: above", dampAfter(60, 11, 1, 43, 0), 10);
-        Check.due("air 43 is 10: there", dampAfter(60, 10, 4, 43, 0), 10);
-        Check.due("air 43 is 10: below", dampAfter(60, 9, 1, 43, 0), 10);
-        Check.due("air 44 is 11", dampAfter(60, 9, 4, 44, 0), 11);
-        Check.due("air 100 is 25: up", dampAfter(60, 20, 8, 100, 0), 25);
-        Check.due("air 100 is 25: down", dampAfter(60, 40, 20, 100, 0), 25);
-        Check.due("air 19 is 4: 5 at least", dampAfter(60, 6, 4, 19, 0), 5);
-        Check.due("air 0: 5 at least", dampAfter(60, 5, 4, 0, 0), 5);
-        Check.due("air 20 is 5", dampAfter(60, 7, 1, 20, 0), 6);
-    }
-
-    private static void shattersInTheAfternoon() {
-        Check.due("CLOCK 11", lostAfter(100, 10, 11, 40, 0), 0);
-        Check.due("CLOCK 12", lostAfter(100, 10, 12, 40, 0), 1);
-        Check.due("CLOCK 14", lostAfter(100, 10, 14, 40, 0), 3);
-        Check.due("CLOCK 17", lostAfter(100, 10, 17, 40, 0), 6);
-        Check.due("CLOCK 18", lostAfter(100, 10, 18, 40, 0), 6);
-        Check.due("CLOCK 11 of the next day", lostAfter(100, 10, 35, 40, 0), 6);
-        Check.due("CLOCK 12 of the next day", lostAfter(100, 10, 36, 40, 0), 7);
-    }
-
-    private static void shattersWhenDryAndRipe() {
-        Check.due("DAMP 14", lostAfter(100, 14, 18, 56, 0), 0);
-        Check.due("DAMP 13", lostAfter(100, 13, 18, 52, 0), 6);
-        Check.due("RIPE 99", lostAfter(99, 10, 18, 40, 0), 0);
-        WheatRun x = with(99, 15);
-        x.pass(11, 0, 60, 0);
-        x.pass(1, 15, 0, 0);
-        Check.due("RIPE 100 and DAMP 14 by then", x.ofField(0, 6), 0);
-        x.pass(1, 15, 0, 0);
-        Check.due("RIPE 100 and DAMP 13 by then", x.ofField(0, 6), 1);
-        WheatRun y = with(99, 14);
-        y.pass(11, 0, 56, 0);
-        y.pass(1, 15, 0, 0);
-        Check.due("both by then", y.ofField(0, 6), 1);
-    }
-
-    private static void shattersByRain() {
-        Check.due("rain 9", lostAfter(100, 30, 2, 0, 9), 0);
-        Check.due("rain 10", lostAfter(100, 30, 1, 0, 10), 5);
-        Check.due("rain 20", lostAfter(100, 30, 2, 0, 20), 10);
-        Check.due("rain 10, RIPE 99", lostAfter(99, 30, 2, 0, 10), 0);
-        WheatRun x = with(100, 5);
-        x.pass(12, 0, 20, 0);
-        Check.due("dry ahead of rain", x.ofField(0, 6), 1);
-        x.pass(1, 0, 20, 9);
-        Check.due("rain makes it damp: 14", x.ofField(0, 6), 1);
-        x.crop(0, 100, 5);
-        x.pass(1, 0, 20, 8);
-        Check.due("rain leaves it dry: 13", x.ofField(0, 6), 2);
-        x.crop(0, 100, 5);
-        x.pass(1, 0, 20, 10);
-        Check.due("rain of 10 at noon", x.ofField(0, 6), 7);
-    }
-
-    private static void shattersToItsEnd() {
-        Check.due("19 hours", lostAfter(100, 30, 19, 0, 20), 95);
-        Check.due("20 hours", lostAfter(100, 30, 20, 0, 20), 100);
-        Check.due("21 hours", lostAfter(100, 30, 21, 0, 20), 100);
-        WheatRun x = with(100, 10);
-        x.pass(14, 0, 40, 0);
-        x.pass(20, 0, 40, 20);
-        Check.due("3 and 97", x.ofField(0, 6), 100);
-        x.crop(0, 100, 10);
-        x.pass(6, 0, 40, 0);
-        Check.due("100 stays", x.ofField(0, 6), 100);
     }
 
     private static void fieldByField() {

@@ -44,6 +44,27 @@ final class Lands {
         Check.due("LOST", x.ofField(field, 6), lost);
     }
 
+    /** As ready(), where the FIELD LOST so much of its YIELD; a LANDLORD has 50 of 100 of it. */
+    static WheatRun shattered(int acres, int bushels, int lost, int pace) {
+        WheatRun x = new WheatRun();
+        x.field(0, 0, acres, bushels, 50);
+        x.combine(0, pace);
+        x.truck(0);
+        shatter(x, 0, lost);
+        passUntil(x, 7);
+        x.cut(0, 0);
+        return x;
+    }
+
+    /** TRUCK 0 takes what COMBINE 0 cuts in an hour, and sells that at an ELEVATOR at its MILE; one TICKET. */
+    static void sell(WheatRun x, int elevator) {
+        x.fetch(0, 0);
+        pass(x, 1);
+        x.cut(0, -1);
+        x.haul(0, elevator);
+        Check.due("TICKETS of a sale", x.pass(1, 0, 60, 0), 1);
+    }
+
     /**
      * Two FIELDS, COMBINES, TRUCKS and ELEVATORS at NOW 12: TICKETS of 400 and 200 bushels of FIELD 0,
      * 390 bushels of FIELD 1 in a TANK, 400 of FIELD 0 on TRUCK 0. One more of each could be told.

@@ -5,7 +5,6 @@ final class TicketTest {
 
     public static void main(String[] args) {
         ticketSaysAll();
-        discounts();
         worthIsRoundedDown();
         priceIsThatOfTheHour();
         sharesAreRoundedByTicket();
@@ -16,7 +15,6 @@ final class TicketTest {
         metersByHour();
         correction();
         correctionWaitsForAll();
-        correctionWaitsForOneBushel();
         Check.end();
     }
 
@@ -76,17 +74,6 @@ final class TicketTest {
         Check.due("LANDLORD of 1", x.owed(1, true), 21);
         Check.due("FARMER 1", x.owed(1, false), 192);
         Check.due("TICKETS", x.many(7), 2);
-    }
-
-    private static void discounts() {
-        int[][] leasts = {{5, 20}, {14, 2}, {15, 0}, {16, 0}, {40, 0}};
-        for (int[] least : leasts) {
-            WheatRun x = with(10, 0, 10);
-            x.elevator(0, 500, 0, 23, least[0], 40);
-            sell(x, 0);
-            Check.due("DISCOUNT above " + least[0], x.ofTicket(0, 3), least[1]);
-            Check.due("worth", x.ofTicket(0, 6), 400 - 4 * least[1]);
-        }
     }
 
     private static void worthIsRoundedDown() {
@@ -264,26 +251,5 @@ final class TicketTest {
         pass(x, 1);
         Check.due("another FIELD's on a TRUCK", x.ofField(0, 10), 1041);
         Check.due("that other FIELD", x.ofField(1, 10), -1);
-    }
-
-    private static void correctionWaitsForOneBushel() {
-        WheatRun x = with(20, 0, 1);
-        x.elevator(0, 500, 0, 23, 5, 40);
-        sell(x, 0);
-        Check.due("20000 / 19", x.ofField(0, 10), 1052);
-        x.crop(0, 100, 30);
-        x.pass(19, 0, 60, 20);
-        x.crop(0, 100, 15);
-        pass(x, 4);
-        Check.due("one bushel", x.ofField(0, 9), 1);
-        Check.due("one in a TANK", x.ofField(0, 10), -1);
-        x.cut(0, -1);
-        x.fetch(0, 0);
-        pass(x, 1);
-        Check.due("one bushel", x.ofTruck(0, 1), 1);
-        Check.due("one on a TRUCK", x.ofField(0, 10), -1);
-        x.haul(0, 0);
-        pass(x, 1);
-        Check.due("21000 / 19", x.ofField(0, 10), 1105);
     }
 }

@@ -7,7 +7,6 @@ final class WouldTest {
         promise22ReadyIn();
         promise22ReadyInByClock();
         promise22ReadyInNone();
-        promise22ReadyInThrows();
         promise23NextFieldByBushels();
         promise23NextFieldByWay();
         promise23NextFieldOfSeveral();
@@ -18,10 +17,8 @@ final class WouldTest {
         promise23NextFieldAsATruckRests();
         promise23NextFieldByBrings();
         promise23NextFieldCountsBushelsNotMaps();
-        promise23NextFieldThrows();
         promise24Waiting();
         promise24WaitingForWhatIsLeft();
-        promise24WaitingThrows();
         promise22To24BeyondTheLastHour();
         promise25Digest();
         Check.end();
@@ -75,18 +72,6 @@ final class WouldTest {
         dueReady(with(0, 40, 8), 15, 0, 80);
         dueReady(with(0, 30, 0), 15, 80, -1);
         dueReady(with(0, 30, 0), 45, 79, 40);
-    }
-
-    private static void promise22ReadyInThrows() {
-        WheatRun x = with(80, 19, 0);
-        Check.dueThrown("field -1", x, Check.INDEX, () -> x.readyIn(-1, 0, 0));
-        Check.dueThrown("field 1", x, Check.INDEX, () -> x.readyIn(1, 0, 0));
-        Check.dueThrown("field before warmth", x, Check.INDEX, () -> x.readyIn(1, -1, -1));
-        Check.dueThrown("warmth -1", x, Check.ARGUMENT, () -> x.readyIn(0, -1, 0));
-        Check.dueThrown("warmth 46", x, Check.ARGUMENT, () -> x.readyIn(0, 46, 0));
-        Check.dueThrown("air -1", x, Check.ARGUMENT, () -> x.readyIn(0, 0, -1));
-        Check.dueThrown("air 101", x, Check.ARGUMENT, () -> x.readyIn(0, 0, 101));
-        Check.due("greatest", x.readyIn(0, 45, 100), -1);
     }
 
     /** Fields of 10 bushels an acre, RIPE 80, DAMP 15, told by mile and acres; CLOCK 7; one combine at 0. */
@@ -270,21 +255,6 @@ final class WouldTest {
         dueNext("equal cuts, what came before counts not", x, 0, 1, 1);
     }
 
-    private static void promise23NextFieldThrows() {
-        WheatRun x = fields(5, new int[] {0, 50});
-        Check.dueThrown("combine -1", x, Check.INDEX, () -> x.nextField(-1, 1, 0, 0));
-        Check.dueThrown("combine 1", x, Check.INDEX, () -> x.nextField(1, 1, 0, 0));
-        Check.dueThrown("combine before hours", x, Check.INDEX, () -> x.nextField(1, 0, 46, 101));
-        Check.dueThrown("hours 0", x, Check.ARGUMENT, () -> x.nextField(0, 0, 0, 0));
-        Check.dueThrown("hours 49", x, Check.ARGUMENT, () -> x.nextField(0, 49, 0, 0));
-        Check.dueThrown("warmth -1", x, Check.ARGUMENT, () -> x.nextField(0, 1, -1, 0));
-        Check.dueThrown("warmth 46", x, Check.ARGUMENT, () -> x.nextField(0, 1, 46, 0));
-        Check.dueThrown("air -1", x, Check.ARGUMENT, () -> x.nextField(0, 1, 0, -1));
-        Check.dueThrown("air 101", x, Check.ARGUMENT, () -> x.nextField(0, 1, 0, 101));
-        Check.due("greatest", x.nextField(0, 48, 45, 100), 0);
-        Check.due("least", x.nextField(0, 1, 0, 0), 0);
-    }
-
     private static void dueWaiting(WheatRun x, int hours, int air, int rain, int want) {
         String what = "waiting(0, " + hours + ", 0, " + air + ", " + rain + ") at " + x.many(0);
         long before = x.digest();
@@ -322,22 +292,6 @@ final class WouldTest {
         dueWaiting(x, 1, 40, 0, 0);
         dueWaiting(x, 1, 40, 10, 92 * (47 - 44));
         dueWaiting(x, 19, 40, 0, 92 * (47 - 46));
-    }
-
-    private static void promise24WaitingThrows() {
-        WheatRun x = with(100, 10, 0);
-        Check.dueThrown("field -1", x, Check.INDEX, () -> x.waiting(-1, 1, 0, 0, 0));
-        Check.dueThrown("field 1", x, Check.INDEX, () -> x.waiting(1, 1, 0, 0, 0));
-        Check.dueThrown("field before hours", x, Check.INDEX, () -> x.waiting(1, 0, 46, 101, 21));
-        Check.dueThrown("hours 0", x, Check.ARGUMENT, () -> x.waiting(0, 0, 0, 0, 0));
-        Check.dueThrown("hours 49", x, Check.ARGUMENT, () -> x.waiting(0, 49, 0, 0, 0));
-        Check.dueThrown("warmth -1", x, Check.ARGUMENT, () -> x.waiting(0, 1, -1, 0, 0));
-        Check.dueThrown("warmth 46", x, Check.ARGUMENT, () -> x.waiting(0, 1, 46, 0, 0));
-        Check.dueThrown("air -1", x, Check.ARGUMENT, () -> x.waiting(0, 1, 0, -1, 0));
-        Check.dueThrown("air 101", x, Check.ARGUMENT, () -> x.waiting(0, 1, 0, 101, 0));
-        Check.dueThrown("rain -1", x, Check.ARGUMENT, () -> x.waiting(0, 1, 0, 0, -1));
-        Check.dueThrown("rain 21", x, Check.ARGUMENT, () -> x.waiting(0, 1, 0, 0, 21));
-        Check.due("greatest", x.waiting(0, 48, 45, 100, 20), 5000);
     }
 
     private static void promise22To24BeyondTheLastHour() {
